@@ -1,0 +1,121 @@
+import java.util.function.LongSupplier;
+
+/** Counts the answers that are not as due, and looks at all that can be seen of an object. */
+final class Check {
+    private int wrong = 0;
+
+    void due(String call, long got, long want) {
+        if (got == want) return;
+        wrong++;
+        System.out.println(call + " answered " + got + ", due is " + want);
+    }
+
+    void same(String what, String got, String want) {
+        if (got.equals(want)) return;
+        wrong++;
+        System.out.println(what + " is " + got + ", due is " + want);
+    }
+
+    /** A call that is refused: the answer is due, and nothing that can be seen changes. */
+    void refused(String call, IntentVats x, LongSupplier asked, long want) {
+        String before = look(x);
+        due(call, asked.getAsLong(), want);
+        same("what is seen after " + call, look(x), before);
+    }
+
+    void end() {
+        System.out.println(wrong == 0 ? "all answers are as due" : wrong + " answers are not as due");
+        if (wrong != 0) System.exit(1);
+    }
+
+    static void feedText(IntentVats x, String text) {
+        for (int i = 0; i < text.length(); i += 8) {
+            int n = Math.min(8, text.length() - i);
+            long eight = 0;
+            for (int k = n - 1; k >= 0; k--) eight = eight << 8 | text.charAt(i + k);
+            x.feed(eight, n);
+        }
+    }
+
+    static int millOf(IntentVats x, String text) {
+        feedText(x, text);
+        return x.mill();
+    }
+
+    static IntentVats told(String text) {
+        IntentVats x = new IntentVats();
+        if (millOf(x, text) < 0) throw new IllegalStateException("no text: " + text);
+        return x;
+    }
+
+    static String cloth(IntentVats x, int c) {
+        return x.of(c, 0) + "/" + x.of(c, 1) + "/" + x.of(c, 2) + "/" + x.of(c, 3) + "/" + x.of(c, 4);
+    }
+
+    static String cloths(IntentVats x) {
+        StringBuilder b = new StringBuilder();
+        for (int c = 0; c < x.many(0); c++) b.append(c == 0 ? "" : " ").append(cloth(x, c));
+        return b.toString();
+    }
+
+    static String vats(IntentVats x) {
+        StringBuilder b = new StringBuilder();
+        for (int v = 0; v < 8; v++) b.append(v == 0 ? "" : " ").append(x.vatOf(v, 0)).append('/').append(x.vatOf(v, 1));
+        return b.toString();
+    }
+
+    static String rosters(IntentVats x) {
+        StringBuilder b = new StringBuilder();
+        for (int r = 0; r < 6; r++) b.append(x.rosterOf(r));
+        return b.toString();
+    }
+
+    static String laws(IntentVats x) {
+        return x.lawOf(0) + " " + x.lawOf(1) + " " + x.lawOf(2) + " " + x.lawOf(3);
+    }
+
+    static int z(IntentVats x) {
+        int z = x.seed(0);
+        x.seed(z);
+        return z;
+    }
+
+    static String trace(IntentVats x) {
+        StringBuilder b = new StringBuilder();
+        for (int i = 0; i < x.many(6); i++) b.append(i == 0 ? "" : " ").append(x.trace(i));
+        return b.toString();
+    }
+
+    static String rows(IntentVats x) {
+        StringBuilder b = new StringBuilder();
+        for (int i = 0; i < x.many(4); i++) {
+            b.append(i == 0 ? "" : " ").append(x.row(i, 0)).append('/').append(x.row(i, 1)).append('/').append(x.row(i, 2));
+        }
+        return b.toString();
+    }
+
+    private static String shelves(IntentVats x) {
+        StringBuilder b = new StringBuilder();
+        for (int s = 0; s < 4; s++) {
+            b.append('[').append(x.taken(s, 0));
+            for (int as = 10; as < 14; as++) b.append(' ').append(x.taken(s, as));
+            b.append(']');
+        }
+        return b.toString();
+    }
+
+    private static String sheets(IntentVats x) {
+        StringBuilder b = new StringBuilder();
+        for (int s = 0; s < 4; s++) {
+            for (int sort = 0; sort < 4; sort++) b.append(' ').append(x.item(s, sort, 0)).append(' ').append(x.item(s, sort, 1));
+            b.append(';');
+        }
+        return b.toString();
+    }
+
+    /** All that can be seen without changing anything, but for what is kept. */
+    static String look(IntentVats x) {
+        return x.state(0) + "|" + laws(x) + "|" + vats(x) + "|" + rosters(x) + "|" + cloths(x) + "|" + z(x)
+            + "|" + x.many(5) + "|" + rows(x) + "|" + trace(x) + "|" + sheets(x) + "|" + shelves(x);
+    }
+}
