@@ -590,14 +590,18 @@ public final class IntentVats {
                 }
             }
             settle(cloth, deep);
-            dips[cloth] = Math.min(dips[cloth] + 1, MOST_DIPS);
-            strengths[vat] = Math.max(strengths[vat] - 1, 0);
+            if (dips[cloth] < MOST_DIPS) dips[cloth]++;
+            if (strengths[vat] > 0) strengths[vat]--;
         }
 
         /** Holds how deep one is to 0 to 99; at 0 it is about nothing. */
         void settle(int cloth, int deep) {
-            deeps[cloth] = Math.min(Math.max(deep, 0), MOST_DEEP);
-            if (deeps[cloth] == 0) abouts[cloth] = NO_THING;
+            if (deep <= 0) {
+                deeps[cloth] = 0;
+                abouts[cloth] = NO_THING;
+            } else {
+                deeps[cloth] = deep < MOST_DEEP ? deep : MOST_DEEP;
+            }
         }
 
         void deepen(int cloth, int deep) {
@@ -798,16 +802,17 @@ public final class IntentVats {
             int sets = 1 << now.count;
             for (int size = 0; size <= now.count; size++) {
                 for (int hung = 0; hung < sets; hung++) {
-                    if (Integer.bitCount(hung) == size && spoiltIfHung(now, hung, n) <= most) return hung;
+                    if (Integer.bitCount(hung) != size) continue;
+                    hangJust(now, hung);
+                    if (spoiltFromHere(now, n) <= most) return hung;
                 }
             }
             return NONE;
         }
 
-        private int spoiltIfHung(Mill now, int hung, int n) {
+        private void hangJust(Mill now, int hung) {
             tried.copyFrom(now);
             for (int cloth = 0; cloth < now.count; cloth++) tried.hungs[cloth] = hung >> cloth & 1;
-            return spoiltFromHere(now, n);
         }
 
         int manyFitting(Mill now, int cloth, SheetRow depths) {
@@ -1077,7 +1082,7 @@ public final class IntentVats {
 
         private void readDigits() {
             number = 0;
-            while (at < length && isIn(bytes[at], '0', '9')) {
+            while (at < length && bytes[at] >= '0' && bytes[at] <= '9') {
                 if (at - start < MOST_DIGITS) number = number * 10 + bytes[at] - '0';
                 at++;
             }

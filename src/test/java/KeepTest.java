@@ -5,6 +5,7 @@ public final class KeepTest {
     public static void main(String[] args) {
         many();
         keeping();
+        freshAfterAgain();
         whatStays();
         check.end();
     }
@@ -17,6 +18,8 @@ public final class KeepTest {
         x.act(0, 1, 1);
         int[] due = {6, 3, 4, 3, 5, 3, 2};
         for (int what = 0; what < 7; what++) check.due("many " + what, x.many(what), due[what]);
+        check.due("purposes of the first", Check.told("cloth about 9; wool;").many(3), 1);
+        check.due("purposes", Check.told("cloth about 9; wool about 0; felt about 9; felt about 0; felt about 5;").many(3), 3);
         check.due("many(7)", x.many(7), -1);
         check.due("many(-1)", x.many(-1), -1);
         check.due("many(max)", x.many(Integer.MAX_VALUE), -1);
@@ -56,6 +59,18 @@ public final class KeepTest {
         Check.millOf(x, "");
         check.due("the latest", x.again(), 3);
         check.same("the latest", Check.look(x), later);
+    }
+
+    private static void freshAfterAgain() {
+        IntentVats x = new IntentVats();
+        x.keep();
+        x.cloth(4);
+        x.steep(0, 3, 9);
+        x.hang(0, 1);
+        x.dip(0, 1);
+        check.due("again", x.again(), 0);
+        x.cloth(1);
+        check.same("a new one", Check.cloth(x, 0), "1/0/0/0/0");
     }
 
     private static void whatStays() {

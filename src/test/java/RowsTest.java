@@ -21,6 +21,8 @@ public final class RowsTest {
         check.due("row -1", x.row(-1, 0), -9);
         check.due("what 3", x.row(0, 3), -9);
         check.due("what -1", x.row(1, -1), -9);
+        check.due("prove 1", x.prove(1, 1), 1);
+        check.same("rows", Check.rows(x), "10/7/15");
         check.due("prove 10", x.prove(0, 10), 10);
         check.due("row 9", x.row(9, 1), x.depth(0, 10));
         String rows = Check.rows(x);

@@ -6,6 +6,7 @@ public final class TextTest {
         feeding();
         wholeText();
         shortTexts();
+        oneAfterAnother();
         blanksAndNumbers();
         faults();
         ninth();
@@ -62,6 +63,32 @@ public final class TextTest {
         check.same("vats", Check.vats(x), "0/5 1/5 2/5 3/5 4/5 5/5 6/5 7/5");
     }
 
+    /** Nothing of a text before, of a text that failed, or of cloths that went comes back. */
+    private static void oneAfterAnother() {
+        IntentVats x = Check.told("wool about 3 deep 7 hung; cloth about 2; day 0 vat 7; day 5 vat 0; vat 7 of 0; vat 0 of 9; strong 7 0; strong 0 9;");
+        check.due("to 0", x.vatOf(7, 0), 0);
+        check.due("to 0", x.vatOf(7, 1), 0);
+        check.same("roster", Check.rosters(x), "823451");
+        x.days(3);
+        x.keep();
+        check.due("a text that fails", Check.millOf(x, "felt about 1 hung; felt hung; felt hung; light 9; day 1 vat 5; vat 3 of 0; no"), -175);
+        check.due("a shorter one", Check.millOf(x, "linen; linen;"), 2);
+        check.same("cloths", Check.cloths(x), "2/0/0/0/0 2/0/0/0/0");
+        check.same("vats", Check.vats(x), "0/5 1/5 2/5 3/5 4/5 5/5 6/5 7/5");
+        check.same("roster", Check.rosters(x), "123456");
+        check.same("laws", Check.laws(x), "3 2 4 20");
+        check.due("day", x.state(0), 0);
+        x.cloth(3);
+        check.same("one more", Check.cloth(x, 2), "3/0/0/0/0");
+        x.again();
+        x.dip(1, 1);
+        x.steep(1, 8, 8);
+        x.hang(1, 1);
+        Check.millOf(x, "felt;");
+        x.cloth(5);
+        check.same("one more", Check.cloth(x, 1), "5/0/0/0/0");
+    }
+
     private static void blanksAndNumbers() {
         IntentVats x = Check.told("   wool   about   003  deep 099   hung   ;   strong 007 009 ;  ");
         check.same("blanks", Check.cloths(x), "1/4/99/1/0");
@@ -84,6 +111,10 @@ public final class TextTest {
     private static void faults() {
         fault("clot;", 0);
         fault("clothe;", 0);
+        fault("bool;", 0);
+        fault("cloth ebout 3;", 6);
+        fault("wools;", 0);
+        fault("woo;", 0);
         fault("clothabout 3;", 0);
         fault("about 3;", 0);
         fault("hung;", 0);

@@ -57,6 +57,10 @@ public final class TriedTest {
         x.steep(1, 3, 6);
         check.due("least strength that turns it", x.strengthFor(0, 1, 0, 1), 8);
         check.due("no strength", x.strengthFor(1, 1, 0, 1), -3);
+        x.steep(1, 3, 7);
+        check.due("the most", x.strengthFor(0, 1, 0, 1), 9);
+        x.steep(1, 3, 8);
+        check.due("not by the most", x.strengthFor(0, 1, 0, 1), -3);
         check.due("strength of another vat", x.strengthFor(1, 1, 3, 1), 0);
     }
 
