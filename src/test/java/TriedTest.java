@@ -102,6 +102,11 @@ public final class TriedTest {
         check.due("eight may", x.hangFor(30, 8), 0);
         check.due("none may in 30", x.hangFor(30, 0), -3);
         check.due("hung as before", x.state(2), 4);
+        x = Check.told("cloth about 9 deep 5; cloth about 9 deep 5; cloth about 9 deep 2; light 1;");
+        check.due("one of a higher number before two", x.hangFor(1, 1), 4);
+        x = Check.told("cloth about 9 deep 9; cloth about 9 deep 9; cloth about 9 deep 1; cloth about 9 deep 1; light 0;");
+        check.due("the least of one", x.hangFor(1, 1), 4);
+        check.due("both", x.hangFor(1, 0), 12);
     }
 
     // ---- against mills on which it is really done ----
