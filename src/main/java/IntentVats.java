@@ -1182,7 +1182,7 @@ public final class IntentVats {
             30, 11, 12, 31,
             51, 20, 50, 13,
             40, 41, 12, 31,
-            10, 11, 61, 60,
+            10, 11, 61, 60
         };
 
         final int[] bodies = new int[MOST_TRACE];
