@@ -1,19 +1,27 @@
 import java.util.function.LongSupplier;
+import java.util.function.Supplier;
+import java.util.function.ToLongFunction;
 
 /** Counts the answers that are not as due, and looks at all that can be seen of an object. */
 final class Check {
     private int wrong = 0;
+    private String sentence = "";
+
+    /** What the document says, of the calls that follow. */
+    void sentence(String told) {
+        sentence = "[" + told + "] ";
+    }
 
     void due(String call, long got, long want) {
         if (got == want) return;
         wrong++;
-        System.out.println(call + " answered " + got + ", due is " + want);
+        System.out.println(sentence + call + " answered " + got + ", due is " + want);
     }
 
     void same(String what, String got, String want) {
         if (got.equals(want)) return;
         wrong++;
-        System.out.println(what + " is " + got + ", due is " + want);
+        System.out.println(sentence + what + " is " + got + ", due is " + want);
     }
 
     /** A call that is refused: the answer is due, and nothing that can be seen changes. */
@@ -21,6 +29,62 @@ final class Check {
         String before = look(x);
         due(call, asked.getAsLong(), want);
         same("what is seen after " + call, look(x), before);
+    }
+
+    /** A call that is refused, against one of the same make without it: also the tape and what is kept are the same. */
+    void refusedBy(Supplier<IntentVats> made, String call, ToLongFunction<IntentVats> asked, long want) {
+        due(call, asked.applyAsLong(made.get()), want);
+        same("what is seen after " + call, seenAll(made, asked), seenAll(made, x -> 0));
+    }
+
+    /** The same of a busy mill. */
+    void refused(String call, ToLongFunction<IntentVats> asked, long want) {
+        refusedBy(Check::busy, call, asked, want);
+    }
+
+    void bad(String call, ToLongFunction<IntentVats> asked) {
+        refused(call, asked, -1);
+    }
+
+    private static String seenAll(Supplier<IntentVats> made, ToLongFunction<IntentVats> asked) {
+        IntentVats plain = made.get();
+        IntentVats kept = made.get();
+        IntentVats milled = made.get();
+        asked.applyAsLong(plain);
+        asked.applyAsLong(kept);
+        asked.applyAsLong(milled);
+        return look(plain) + "|" + kept.again() + look(kept) + "|" + milled.mill() + look(milled);
+    }
+
+    /** Four cloths, other ones kept, three sheets, all sorts of shelves, rows, a trace, a text on the tape. */
+    static IntentVats busy() {
+        IntentVats x = told("wool about 3 deep 9; linen about 1 hung; felt about 6; slip 30; light 4; vat 2 of 9;");
+        x.seed(4711);
+        x.keep();
+        x.days(2);
+        x.cloth(5);
+        x.steep(3, 9, 99);
+        x.seed(42);
+        x.roster(4, -1);
+        busyStuff(x);
+        feedText(x, "muslin about 2 deep 5 hung; slip 3;");
+        return x;
+    }
+
+    private static void busyStuff(IntentVats x) {
+        x.sheet(0, 0, 3);
+        x.put(0, 0, 7);
+        x.put(0, 2, -128);
+        x.sheet(1, 1, 2);
+        x.put(1, 1, 300);
+        x.sheet(2, 3, 40);
+        x.put(2, 1, 70000);
+        x.shelf(0, 0, 1);
+        x.shelf(1, 1, 0);
+        x.shelf(2, 0, 3);
+        x.act(0, 3, 7);
+        x.prove(1, 4);
+        x.alterRow(2, 1, 55);
     }
 
     void end() {
@@ -54,7 +118,8 @@ final class Check {
 
     static String cloths(IntentVats x) {
         StringBuilder b = new StringBuilder();
-        for (int c = 0; c < x.many(0); c++) b.append(c == 0 ? "" : " ").append(cloth(x, c));
+        int count = x.many(0);
+        for (int c = 0; c < count; c++) b.append(c == 0 ? "" : " ").append(cloth(x, c));
         return b.toString();
     }
 
@@ -82,13 +147,15 @@ final class Check {
 
     static String trace(IntentVats x) {
         StringBuilder b = new StringBuilder();
-        for (int i = 0; i < x.many(6); i++) b.append(i == 0 ? "" : " ").append(x.trace(i));
+        int bodies = x.many(6);
+        for (int i = 0; i < bodies; i++) b.append(i == 0 ? "" : " ").append(x.trace(i));
         return b.toString();
     }
 
     static String rows(IntentVats x) {
         StringBuilder b = new StringBuilder();
-        for (int i = 0; i < x.many(4); i++) {
+        int rows = x.many(4);
+        for (int i = 0; i < rows; i++) {
             b.append(i == 0 ? "" : " ").append(x.row(i, 0)).append('/').append(x.row(i, 1)).append('/').append(x.row(i, 2));
         }
         return b.toString();
@@ -107,7 +174,9 @@ final class Check {
     private static String sheets(IntentVats x) {
         StringBuilder b = new StringBuilder();
         for (int s = 0; s < 4; s++) {
-            for (int sort = 0; sort < 4; sort++) b.append(' ').append(x.item(s, sort, 0)).append(' ').append(x.item(s, sort, 1));
+            for (int sort = 0; sort < 4; sort++) {
+                for (int i = 0; i < 3; i++) b.append(' ').append(x.item(s, sort, i));
+            }
             b.append(';');
         }
         return b.toString();
