@@ -20,6 +20,7 @@ public final class EdgeClothTest {
         fightsMost();
         fadesWoolBelow0();
         fadesFelt0();
+        fadesMost();
         fadesVatDoesNotMatter();
         fadesVatMustBeTold();
         doesOutside();
@@ -167,6 +168,19 @@ public final class EdgeClothTest {
     private static void fadesFelt0() {
         check.sentence("FADES: felt: 0");
         for (int light = 0; light <= 9; light++) check.due("felt", one("felt", 5, 0, light, 0).does(0, 3, 2), 1000);
+    }
+
+    private static void fadesMost() {
+        check.sentence("FADES by the least and the most LIGHT");
+        int[] least = {0, -1, 1, 0, 2, 3};
+        int[] most = {9, 8, 10, 0, 20, 12};
+        for (int kind = 0; kind < 6; kind++) {
+            IntentVats x = one("cloth", 5, 0, 0, 0);
+            x.mind(0, kind);
+            check.due("by 0, kind " + kind, x.does(0, 3, 2), 1000 + least[kind]);
+            x.set(1, 9);
+            check.due("by 9, kind " + kind, x.does(0, 3, 2), 1000 + most[kind]);
+        }
     }
 
     private static void fadesVatDoesNotMatter() {

@@ -33,6 +33,7 @@ public final class EdgeMillTest {
         rosterOfRange();
         rosterOfOutside();
         dayBySix();
+        fiveHundredTwelve();
         check.end();
     }
 
@@ -234,5 +235,14 @@ public final class EdgeMillTest {
             check.due("vat of day " + day, x.state(1), 1 + day % 6);
             x.days(1);
         }
+    }
+
+    private static void fiveHundredTwelve() {
+        check.sentence("An object is used for at most 512 calls");
+        IntentVats x = new IntentVats();
+        check.due("the first", x.cloth(3), 0);
+        for (int i = 2; i <= 510; i++) check.due("call " + i, x.hang(0, i % 2), i == 2 ? 0 : (i - 1) % 2);
+        check.due("the 511th", x.dip(0, 6), 7);
+        check.due("the 512th", x.of(0, 2), 22);
     }
 }

@@ -28,14 +28,17 @@ public final class EdgeShelfTest {
         actWraps();
         actParted();
         actPartedInside();
+        actAfterAPartedOne();
         actCutTowards0();
         actOfNothing();
         actChangesNothing();
+        actPartedChangesNothing();
         traceAtFirst();
         traceRange();
         traceOfTheLatest();
         traceOfAPartedOne();
         traceLongest();
+        bodiesOfEachKind();
         check.end();
     }
 
@@ -310,6 +313,19 @@ public final class EdgeShelfTest {
         check.same("seen", Check.look(one), Check.look(other));
     }
 
+    private static void actPartedChangesNothing() {
+        check.sentence("such a call changes nothing: -15, THE TRACE is of the latest act()");
+        IntentVats one = Check.busy();
+        IntentVats other = Check.busy();
+        one.steep(1, 0, 5);
+        other.steep(1, 0, 5);
+        check.due("parted", one.act(0, 2, 5), -15);
+        check.same("trace", Check.trace(one), "12");
+        one.act(2, 0, 5);
+        other.act(2, 0, 5);
+        check.same("seen", Check.look(one), Check.look(other));
+    }
+
     private static void traceAtFirst() {
         check.sentence("46: NONE, before any act()");
         check.refusedBy(IntentVats::new, "trace(0)", x -> x.trace(0), -3);
@@ -353,5 +369,34 @@ public final class EdgeShelfTest {
         x.act(0, 3, 1);
         check.same("eleven", Check.trace(x), "31 13 41 11 40 30 10 40 30 10 12");
         check.due("many(6)", x.many(6), 11);
+    }
+
+    private static void bodies(String text, String rubs, String steeps, String parts, String dries) {
+        IntentVats x = Check.told(text);
+        x.shelf(0, 0, 0);
+        String[] due = {rubs, steeps, parts, dries};
+        for (int act = 0; act < 4; act++) {
+            x.act(0, act, 1);
+            check.same("trace of act " + act + " of " + text, Check.trace(x), due[act]);
+        }
+    }
+
+    private static void bodiesOfEachKind() {
+        check.sentence("BODIES: that of the KIND itself, else of the one above it");
+        bodies("cloth about 3;", "10", "11 10", "12", "13 11 10");
+        bodies("wool about 3;", "10", "20 11 10", "12", "13 20 11 10");
+        bodies("linen about 3;", "30 10", "11 30 10", "12", "31 13 11 30 10 12");
+        bodies("felt about 3;", "51 10", "20 11 51 10", "50 12", "13 20 11 51 10");
+        bodies("shroud about 3;", "40 30 10", "41 11 40 30 10 40 30 10", "12", "31 13 41 11 40 30 10 40 30 10 12");
+        bodies("muslin about 3;", "10", "11 10", "61 12 10", "60 13 11 10");
+    }
+
+    private static void actAfterAPartedOne() {
+        check.sentence("45: an ACT after one that was parted by 0");
+        IntentVats x = Check.told("muslin;");
+        x.shelf(0, 0, 0);
+        check.due("parts", x.act(0, 2, 1), -15);
+        check.due("rubs", x.act(0, 0, 1), 5);
+        check.same("trace", Check.trace(x), "10");
     }
 }

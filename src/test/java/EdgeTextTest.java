@@ -42,9 +42,12 @@ public final class EdgeTextTest {
         besideLettersAndDigits();
         whatCanNotStandThere();
         moreMustCome();
+        endOfAFullTape();
+        endBeforeOlderBytes();
         ninth();
         eightAndMore();
         byItAlone();
+        byItAloneOfTexts();
         zStays();
         faultChangesNothing();
         check.end();
@@ -415,6 +418,28 @@ public final class EdgeTextTest {
         }
     }
 
+    private static void endOfAFullTape() {
+        check.sentence("FAULT: the end of a tape of 200 bytes");
+        for (String last : new String[] {"slip 1", "slip", "wool", "vat 1 of 1", "felt about 1"}) {
+            String text = " ".repeat(200 - last.length()) + last;
+            fault(text, 200);
+            boolean ends = !last.equals("slip");
+            check.due("and with its stop", Check.millOf(new IntentVats(), text.substring(1) + ";") >= 0 ? 1 : 0, ends ? 1 : 0);
+        }
+    }
+
+    private static void endBeforeOlderBytes() {
+        check.sentence("mill() uses it up: bytes of the text before don't go on");
+        IntentVats x = Check.told("slip 12;");
+        check.due("slip 1", Check.millOf(x, "slip 1"), -106);
+        check.due("slip 12;", Check.millOf(x, "slip 12;"), 0);
+        check.due("sli", Check.millOf(x, "sli"), -100);
+        check.due("slip 12;", Check.millOf(x, "slip 12;"), 0);
+        check.due("slip 12", Check.millOf(x, "slip 12"), -107);
+        check.due("wool;", Check.millOf(x, "wool;"), 1);
+        check.due("woo", Check.millOf(x, "woo"), -100);
+    }
+
     private static void ninth() {
         check.sentence("FAULT: the NAME of a ninth one");
         String[] kinds = {"cloth", "wool", "linen", "felt", "shroud", "muslin"};
@@ -449,6 +474,17 @@ public final class EdgeTextTest {
         check.same("all", Check.look(x), Check.look(Check.told("linen;")));
         x.cloth(0);
         check.same("the second one is new", Check.cloth(x, 1), "0/0/0/0/0");
+    }
+
+    private static void byItAloneOfTexts() {
+        check.sentence("It is all by it alone: nothing of the texts before");
+        String all = "mordant 9; light 9; quarrel 9; slip 9; vat 0 of 9; strong 0 9; vat 7 of 0; strong 7 0; day 0 vat 7; day 5 vat 0; felt about 9 deep 9 hung; felt hung;";
+        IntentVats x = Check.told(all);
+        check.due("mill", Check.millOf(x, "linen;"), 1);
+        check.same("all", Check.look(x), Check.look(Check.told("linen;")));
+        check.due("mill", Check.millOf(x, all + "felt"), -100 - all.length() - 4);
+        check.due("mill", Check.millOf(x, "linen; linen;"), 2);
+        check.same("nor of a refused one", Check.look(x), Check.look(Check.told("linen; linen;")));
     }
 
     private static void zStays() {
