@@ -4,8 +4,27 @@ import java.util.function.ToLongFunction;
 
 /** Counts the answers that are not as due, and looks at all that can be seen of an object. */
 final class Check {
+    private static final long LONGEST = 300_000;
+
     private int wrong = 0;
     private String sentence = "";
+
+    /** A call that does not end fails the test as well. */
+    Check() {
+        Thread watch = new Thread(this::endLate);
+        watch.setDaemon(true);
+        watch.start();
+    }
+
+    private void endLate() {
+        try {
+            Thread.sleep(LONGEST);
+        } catch (InterruptedException e) {
+            return;
+        }
+        System.out.println(sentence + "a call does not end");
+        Runtime.getRuntime().halt(1);
+    }
 
     /** What the document says, of the calls that follow. */
     void sentence(String told) {
